@@ -192,6 +192,7 @@ public final class PromisesTest {
         due("states", x.count(14), 4);
         SlatCrates y = read("As60r59g15[Bs20r19g15[Cs5r4g0]]");
         due("ground(1) with its load", y.ground(1), 10);
+        due("states", y.count(14), 2);
         Due.due("it took its load along", text(y, 1), "Bs20r19g15[Cs5r4g0]");
     }
 
@@ -230,6 +231,10 @@ public final class PromisesTest {
         due("breakUp(0)", x.breakUp(0), 10);
         due("breakUp(0)", x.breakUp(0), INVALID);
         due("refused", x.count(12), 2);
+        SlatCrates one = read("As60r59g0[Bs20r9g1]");
+        due("breakUp of one with a single crate in it", one.breakUp(0), 5);
+        due("breakUp of the single one", one.breakUp(1), 11);
+        due("breakUp of the emptied one", one.breakUp(0), 10);
         SlatCrates y = read("As60r59g0[Bs20r9g1Cs3r0g0]Ds9r8g7");
         y.put(2, 3);
         due("breakUp(2), whose holder has a greater number", y.breakUp(2), 13);
@@ -483,6 +488,20 @@ public final class PromisesTest {
                 due("effort(" + size + ", " + way + ")", x.effort(size, way), INVALID);
             }
         }
+        SlatCrates deep = new SlatCrates();
+        for (int crate = 0; crate < 12; crate++) {
+            deep.make(60 - crate, 59 - crate, 15, A);
+        }
+        for (int crate = 11; crate > 0; crate--) {
+            deep.put(crate, crate - 1);
+        }
+        for (int crate = 0; crate < 12; crate++) {
+            due("the effort of a deep crate, going up", deep.effort(60 - crate, 0), crate);
+            due("the effort of a deep crate, going down", deep.effort(60 - crate, 1), crate);
+        }
+        due("the greatest depth", deep.count(3), 11);
+        due("the load of the outermost one", deep.crate(0, 7), 11);
+        due("put of the outermost one into the innermost one", deep.put(0, 11), 2);
         for (int way : new int[] {Integer.MIN_VALUE, -1, 2, Integer.MAX_VALUE}) {
             due("effort(5, " + way + ")", x.effort(5, way), INVALID);
         }
@@ -498,6 +517,12 @@ public final class PromisesTest {
         due("alike **C*", x.alike(ANY, ANY, 2, ANY), 1);
         due("alike *E--", x.alike(ANY, 4, BARE, BARE), 1);
         due("alike ****", x.alike(ANY, ANY, ANY, ANY), 5);
+        SlatCrates letters = read("ABs1r0g0BAs1r0g0CCAs1r0g0DDDAs1r0g0");
+        due("alike *A**", letters.alike(ANY, 0, ANY, ANY), 1);
+        due("alike **A*", letters.alike(ANY, ANY, 0, ANY), 1);
+        due("alike ***A", letters.alike(ANY, ANY, ANY, 0), 1);
+        due("alike A***", x.alike(0, ANY, ANY, ANY), 1);
+        due("alike *B**", x.alike(ANY, 1, ANY, ANY), 1);
         due("alike ????", x.alike(HIDDEN, HIDDEN, HIDDEN, HIDDEN), 0);
         for (int wrong : new int[] {Integer.MIN_VALUE, -1, 29, Integer.MAX_VALUE}) {
             due("alike first " + wrong, x.alike(wrong, ANY, ANY, ANY), INVALID);
@@ -560,6 +585,7 @@ public final class PromisesTest {
         Due.due("full of empty rooms", read("As9r8g0Bs9r0g0").full(), 0.0);
         Due.due("full", read("As60r50g0[Bs20r7g0[Cs5r4g0]]Ds9r8g0").full(), 25.0 / 69);
         Due.due("full of thirds", read("As9r2g0[Bs1r0g0]Cs60r1g0").full(), 1.0 / 3);
+        Due.due("wholly full, the least room", read("As2r1g0[Bs1r0g0]").full(), 1.0);
         Due.due("wholly full", read("As9r8g0[Bs8r0g0]").full(), 1.0);
     }
 
@@ -631,6 +657,27 @@ public final class PromisesTest {
         due("breakUp(0)", x.breakUp(0), 10);
         due("undo of breakUp", x.undo(), 0);
         Due.due("the crates", all(x), "As60r59g1");
+        SlatCrates piles = read("As60r59g0[Bs9r0g0Cs8r0g0Ds7r0g0]");
+        piles.ground(3);
+        piles.ground(2);
+        piles.put(3, 0);
+        piles.put(2, 0);
+        Due.due("the pile in another order", text(piles, 0), "As60r59g0[Bs9r0g0Ds7r0g0Cs8r0g0]");
+        piles.undo();
+        piles.undo();
+        due("undo", piles.undo(), 1);
+        due("undo", piles.undo(), 0);
+        Due.due("the pile as it was", text(piles, 0), "As60r59g0[Bs9r0g0Cs8r0g0Ds7r0g0]");
+        SlatCrates many = new SlatCrates();
+        for (int turn = 0; turn < 9; turn++) {
+            many.make(10 + turn, 5, 3, A);
+        }
+        for (int left = 3; left >= 0; left--) {
+            due("undo", many.undo(), left);
+            due("crates", many.count(0), 5 + left);
+            due("the latest crate", many.crate(4 + left, 0), 14 + left);
+        }
+        due("undo of a dropped state", many.undo(), NOT_POSSIBLE);
         SlatCrates same = read("As60r59g0[Bs9r0g0]");
         same.put(1, 0);
         same.turn(0);
