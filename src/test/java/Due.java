@@ -7,6 +7,14 @@ final class Due {
     private Due() {
     }
 
+    static int asked() {
+        return asked;
+    }
+
+    static int wrong() {
+        return wrong;
+    }
+
     static void due(String call, long got, long want) {
         asked++;
         if (got != want) {

@@ -1,14 +1,5 @@
 /** Each promise of the document: ordinary inputs, the edges that it names, and wrong inputs. */
-public final class PromisesTest {
-    private static final int INVALID = -1;
-    private static final int NOT_POSSIBLE = -2;
-    private static final int LIMIT = -3;
-    private static final int NONE = -4;
-    private static final int A = 1;
-    private static final int HIDDEN = 26;
-    private static final int BARE = 27;
-    private static final int ANY = 28;
-
+public final class PromisesTest extends Asking {
     private PromisesTest() {
     }
 
@@ -42,70 +33,12 @@ public final class PromisesTest {
         Due.end("PromisesTest");
     }
 
-    private static void due(String call, long got, long want) {
-        Due.due(call, got, want);
-    }
-
-    private static int label(String letters) {
-        int label = 0;
-        for (int place = letters.length() - 1; place >= 0; place--) {
-            label = label * 27 + letters.charAt(place) - 'A' + 1;
-        }
-        return label;
-    }
-
-    private static void write(SlatCrates x, String text) {
-        for (int place = 0; place < text.length(); place++) {
-            due("append of " + text, x.append(text.charAt(place)) > 0 ? 1 : 0, 1);
-        }
-    }
-
-    private static SlatCrates read(String text) {
-        SlatCrates x = new SlatCrates();
-        write(x, text);
-        due("load " + text, x.load() >= 0 ? 1 : 0, 1);
-        return x;
-    }
-
-    private static String text(SlatCrates x, int crate) {
-        StringBuilder text = new StringBuilder();
-        for (int sign = x.sign(crate, 0); sign > 0; sign = x.sign(crate, text.length())) {
-            text.append((char) sign);
-        }
-        return text.toString();
-    }
-
-    private static String all(SlatCrates x) {
-        StringBuilder text = new StringBuilder();
-        for (int crate = 0; crate < x.count(0); crate++) {
-            if (x.crate(crate, 4) == NONE) {
-                text.append(text(x, crate));
-            }
-        }
-        return text.toString();
-    }
-
-    private static String signs(SlatCrates x, int crate) {
-        StringBuilder signs = new StringBuilder();
-        for (int place = 0; place < 4; place++) {
-            int sign = x.seen(crate, place);
-            signs.append(sign == HIDDEN ? '?' : sign == BARE ? '-' : (char) ('A' + sign));
-        }
-        return signs.toString();
-    }
-
-    private static int faultOf(String text) {
-        SlatCrates x = new SlatCrates();
-        write(x, text);
-        return x.fault();
-    }
-
     private static void promise1NewObject() {
         SlatCrates x = new SlatCrates();
         for (int what = 0; what <= 14; what++) {
             due("new: count(" + what + ")", x.count(what), 0);
         }
-        Due.due("new: full()", x.full(), 0.0);
+        due("new: full()", x.full(), 0.0);
         due("new: fault()", x.fault(), 0);
         due("new: load()", x.load(), NOT_POSSIBLE);
         due("new: undo()", x.undo(), NOT_POSSIBLE);
@@ -125,9 +58,9 @@ public final class PromisesTest {
         due("make(5, 5, 0, A)", x.make(5, 5, 0, A), INVALID);
         due("make(5, 4, -1, A)", x.make(5, 4, -1, A), INVALID);
         due("make(5, 4, 16, A)", x.make(5, 4, 16, A), INVALID);
-        int[] wrongLabels = {Integer.MIN_VALUE, -1, 0, 27, 27 * 27, 27 * 27 + 1, 27 * 27 * 27 + 1,
+        int[] wrongLabels = {MIN, -1, 0, 27, 27 * 27, 27 * 27 + 1, 27 * 27 * 27 + 1,
             27 * 27 * 27 + 28, 27 * 27 * 27 + 27 * 27 + 1, 27 * 27 * 27 + 27 * 27 + 27,
-            27 * 27 * 27 * 27, 27 * 27 * 27 * 27 + 1, Integer.MAX_VALUE};
+            27 * 27 * 27 * 27, 27 * 27 * 27 * 27 + 1, MAX};
         for (int wrong : wrongLabels) {
             due("make(5, 4, 3, " + wrong + ")", x.make(5, 4, 3, wrong), INVALID);
         }
@@ -136,7 +69,7 @@ public final class PromisesTest {
         due("make(60, 59, 15, ZZZZ)", x.make(60, 59, 15, label("ZZZZ")), 1);
         due("make(60, 0, 9, QED)", x.make(60, 0, 9, label("QED")), 2);
         due("states", x.count(14), 3);
-        Due.due("the crates", all(x), "As1r0g0ZZZZs60r59g15QEDs60r0g9");
+        due("the crates", all(x), "As1r0g0ZZZZs60r59g15QEDs60r0g9");
         for (int crate = 3; crate < 12; crate++) {
             due("make", x.make(7, 6, 5, label("HI")), crate);
         }
@@ -162,9 +95,9 @@ public final class PromisesTest {
         due("put(2, 3), small enough", x.put(2, 3), 11);
         due("put(3, 3) with its load in it", x.put(3, 3), 2);
         due("put(2, 0)", x.put(2, 0), 11);
-        Due.due("the pile", text(x, 0), "As60r40g15[Bs20r19g15Cs19r5g0]");
+        due("the pile", text(x, 0), "As60r40g15[Bs20r19g15Cs19r5g0]");
         due("the place of the top", x.crate(2, 9), 1);
-        for (int far : new int[] {Integer.MIN_VALUE, -1, 4, Integer.MAX_VALUE}) {
+        for (int far : new int[] {MIN, -1, 4, MAX}) {
             due("put(" + far + ", 0)", x.put(far, 0), INVALID);
             due("put(0, " + far + ")", x.put(0, far), INVALID);
         }
@@ -193,7 +126,7 @@ public final class PromisesTest {
         SlatCrates y = read("As60r59g15[Bs20r19g15[Cs5r4g0]]");
         due("ground(1) with its load", y.ground(1), 10);
         due("states", y.count(14), 2);
-        Due.due("it took its load along", text(y, 1), "Bs20r19g15[Cs5r4g0]");
+        due("it took its load along", text(y, 1), "Bs20r19g15[Cs5r4g0]");
     }
 
     private static void promise5Turn() {
@@ -219,11 +152,11 @@ public final class PromisesTest {
         due("breakUp(2), neither topmost nor empty: the first reason", x.breakUp(2), 1);
         due("refused", x.count(12), 2);
         due("breakUp(0)", x.breakUp(0), 15);
-        Due.due("the others", all(x), "Bs60r59g15[Cs30r20g15[Ds5r4g0]Es10r0g1]Fs7r6g5");
+        due("the others", all(x), "Bs60r59g15[Cs30r20g15[Ds5r4g0]Es10r0g1]Fs7r6g5");
         due("the holder of D", x.crate(2, 4), 1);
         due("breakUp(3)", x.breakUp(3), 14);
         due("breakUp(2)", x.breakUp(2), 13);
-        Due.due("the others", all(x), "Bs60r59g15[Cs30r20g15]Fs7r6g5");
+        due("the others", all(x), "Bs60r59g15[Cs30r20g15]Fs7r6g5");
         due("breakUp(3)", x.breakUp(3), INVALID);
         due("breakUp(-1)", x.breakUp(-1), INVALID);
         due("breakUp(2)", x.breakUp(2), 12);
@@ -238,13 +171,13 @@ public final class PromisesTest {
         SlatCrates y = read("As60r59g0[Bs20r9g1Cs3r0g0]Ds9r8g7");
         y.put(2, 3);
         due("breakUp(2), whose holder has a greater number", y.breakUp(2), 13);
-        Due.due("the others", all(y), "As60r59g0[Bs20r9g1]Ds9r8g7");
+        due("the others", all(y), "As60r59g0[Bs20r9g1]Ds9r8g7");
         due("the broken one does not come back in a pile", y.crate(2, 6), 0);
     }
 
     private static void promise7Append() {
         SlatCrates x = new SlatCrates();
-        for (int code : new int[] {Integer.MIN_VALUE, -1, 0, 32, 127, Integer.MAX_VALUE}) {
+        for (int code : new int[] {MIN, -1, 0, 32, 127, MAX}) {
             due("append(" + code + ")", x.append(code), INVALID);
         }
         for (int length = 1; length <= 80; length++) {
@@ -266,7 +199,7 @@ public final class PromisesTest {
         due("fault()", x.fault(), 0);
         write(x, "Bs1r0g0");
         due("load()", x.load(), 1);
-        Due.due("only what was written after it", all(x), "Bs1r0g0");
+        due("only what was written after it", all(x), "Bs1r0g0");
         due("states", x.count(14), 1);
     }
 
@@ -312,7 +245,7 @@ public final class PromisesTest {
             due("the holder of " + crate, x.crate(crate, 4), holders[crate]);
             due("the place of " + crate, x.crate(crate, 9), places[crate]);
         }
-        Due.due("the crates", all(x), "As30r20g3Ks50r40g15[As9r8g7[Zs8r0g0]Bs31r30g1]Cs1r0g9");
+        due("the crates", all(x), "As30r20g3Ks50r40g15[As9r8g7[Zs8r0g0]Bs31r30g1]Cs1r0g9");
         due("states", x.count(14), 2);
         String[] impossible = {"", "As5r4g", "As5r4g1]", "As5r5g1", "As5r59g1", "As5r4g1[Bs5r0g0]",
             "As60r9g1[Bs5r0g0Cs5r0g0]", "As60r59g1[Bs5r5g0]", "As60r59g0Bs9r1g0[Cs1r0g0[Ds1r0g0]]"};
@@ -343,15 +276,15 @@ public final class PromisesTest {
 
     private static void promise11Sign() {
         SlatCrates x = read("ABCDs60r59g15[Zs10r9g8[QRs1r0g0]Ys9r8g10]");
-        Due.due("crate 0", text(x, 0), "ABCDs60r59g15[Zs10r9g8[QRs1r0g0]Ys9r8g10]");
-        Due.due("crate 1", text(x, 1), "Zs10r9g8[QRs1r0g0]");
-        Due.due("crate 2", text(x, 2), "QRs1r0g0");
-        Due.due("crate 3", text(x, 3), "Ys9r8g10");
+        due("crate 0", text(x, 0), "ABCDs60r59g15[Zs10r9g8[QRs1r0g0]Ys9r8g10]");
+        due("crate 1", text(x, 1), "Zs10r9g8[QRs1r0g0]");
+        due("crate 2", text(x, 2), "QRs1r0g0");
+        due("crate 3", text(x, 3), "Ys9r8g10");
         due("sign(3, 7)", x.sign(3, 7), '0');
         due("sign(3, 8)", x.sign(3, 8), NONE);
-        due("sign(3, MAX)", x.sign(3, Integer.MAX_VALUE), NONE);
+        due("sign(3, MAX)", x.sign(3, MAX), NONE);
         due("sign(3, -1)", x.sign(3, -1), INVALID);
-        due("sign(3, MIN)", x.sign(3, Integer.MIN_VALUE), INVALID);
+        due("sign(3, MIN)", x.sign(3, MIN), INVALID);
         due("sign(4, 0)", x.sign(4, 0), INVALID);
         due("sign(-1, 0)", x.sign(-1, 0), INVALID);
         SlatCrates y = new SlatCrates();
@@ -364,7 +297,7 @@ public final class PromisesTest {
         for (int crate = 11; crate > 0; crate--) {
             due("put", y.put(crate, crate - 1), 11);
         }
-        Due.due("the longest text", text(y, 0), want.toString());
+        due("the longest text", text(y, 0), want.toString());
     }
 
     private static void promise12Crate() {
@@ -385,7 +318,7 @@ public final class PromisesTest {
             for (int what = 0; what <= 14; what++) {
                 due("crate(" + crate + ", " + what + ")", x.crate(crate, what), want[crate][what]);
             }
-            for (int what : new int[] {Integer.MIN_VALUE, -1, 15, Integer.MAX_VALUE}) {
+            for (int what : new int[] {MIN, -1, 15, MAX}) {
                 due("crate(" + crate + ", " + what + ")", x.crate(crate, what), INVALID);
             }
         }
@@ -435,23 +368,23 @@ public final class PromisesTest {
             due("letter(2, " + place + ")", x.letter(2, place), INVALID);
             due("letter(-1, " + place + ")", x.letter(-1, place), INVALID);
         }
-        for (int place : new int[] {Integer.MIN_VALUE, -1, 4, Integer.MAX_VALUE}) {
+        for (int place : new int[] {MIN, -1, 4, MAX}) {
             due("letter(1, " + place + ")", x.letter(1, place), INVALID);
         }
     }
 
     private static void promise14Seen() {
         SlatCrates x = read("Zs60r59g7[ABCs50r40g13[XYs20r0g0]Ks9r0g0]");
-        Due.due("signs of 0, of which all is seen", signs(x, 0), "Z---");
-        Due.due("signs of 1", signs(x, 1), "ABC?");
-        Due.due("signs of 2", signs(x, 2), "X?-?");
-        Due.due("signs of 3", signs(x, 3), "K--?");
+        due("signs of 0, of which all is seen", signs(x, 0), "Z---");
+        due("signs of 1", signs(x, 1), "ABC?");
+        due("signs of 2", signs(x, 2), "X?-?");
+        due("signs of 3", signs(x, 3), "K--?");
         x.turn(0);
-        Due.due("signs of 1 after a turn", signs(x, 1), "?BC-");
-        Due.due("signs of 2 after a turn", signs(x, 2), "??--");
+        due("signs of 1 after a turn", signs(x, 1), "?BC-");
+        due("signs of 2 after a turn", signs(x, 2), "??--");
         due("seen(4, 0)", x.seen(4, 0), INVALID);
         due("seen(-1, 0)", x.seen(-1, 0), INVALID);
-        for (int place : new int[] {Integer.MIN_VALUE, -1, 4, Integer.MAX_VALUE}) {
+        for (int place : new int[] {MIN, -1, 4, MAX}) {
             due("seen(0, " + place + ")", x.seen(0, place), INVALID);
         }
     }
@@ -484,17 +417,11 @@ public final class PromisesTest {
             due("effort(5, " + way + ")", x.effort(5, way), 5 + 4 + 2);
             due("effort(3, " + way + ")", x.effort(3, way), 6 + 1);
             due("effort(1, " + way + ")", x.effort(1, way), 0);
-            for (int size : new int[] {Integer.MIN_VALUE, -1, 0, 61, Integer.MAX_VALUE}) {
+            for (int size : new int[] {MIN, -1, 0, 61, MAX}) {
                 due("effort(" + size + ", " + way + ")", x.effort(size, way), INVALID);
             }
         }
-        SlatCrates deep = new SlatCrates();
-        for (int crate = 0; crate < 12; crate++) {
-            deep.make(60 - crate, 59 - crate, 15, A);
-        }
-        for (int crate = 11; crate > 0; crate--) {
-            deep.put(crate, crate - 1);
-        }
+        SlatCrates deep = deep12();
         for (int crate = 0; crate < 12; crate++) {
             due("the effort of a deep crate, going up", deep.effort(60 - crate, 0), crate);
             due("the effort of a deep crate, going down", deep.effort(60 - crate, 1), crate);
@@ -502,7 +429,7 @@ public final class PromisesTest {
         due("the greatest depth", deep.count(3), 11);
         due("the load of the outermost one", deep.crate(0, 7), 11);
         due("put of the outermost one into the innermost one", deep.put(0, 11), 2);
-        for (int way : new int[] {Integer.MIN_VALUE, -1, 2, Integer.MAX_VALUE}) {
+        for (int way : new int[] {MIN, -1, 2, MAX}) {
             due("effort(5, " + way + ")", x.effort(5, way), INVALID);
         }
     }
@@ -524,7 +451,7 @@ public final class PromisesTest {
         due("alike A***", x.alike(0, ANY, ANY, ANY), 1);
         due("alike *B**", x.alike(ANY, 1, ANY, ANY), 1);
         due("alike ????", x.alike(HIDDEN, HIDDEN, HIDDEN, HIDDEN), 0);
-        for (int wrong : new int[] {Integer.MIN_VALUE, -1, 29, Integer.MAX_VALUE}) {
+        for (int wrong : new int[] {MIN, -1, 29, MAX}) {
             due("alike first " + wrong, x.alike(wrong, ANY, ANY, ANY), INVALID);
             due("alike second " + wrong, x.alike(ANY, wrong, ANY, ANY), INVALID);
             due("alike third " + wrong, x.alike(ANY, ANY, wrong, ANY), INVALID);
@@ -537,9 +464,9 @@ public final class PromisesTest {
             due("nest(" + place + ")", x.nest(place), want[place]);
         }
         due("nest behind its end", x.nest(want.length), NONE);
-        due("nest far behind its end", x.nest(Integer.MAX_VALUE), NONE);
+        due("nest far behind its end", x.nest(MAX), NONE);
         due("nest(-1)", x.nest(-1), INVALID);
-        due("nest(MIN)", x.nest(Integer.MIN_VALUE), INVALID);
+        due("nest(MIN)", x.nest(MIN), INVALID);
         due("the length of the nest", x.count(10), want.length);
     }
 
@@ -565,7 +492,7 @@ public final class PromisesTest {
         for (int what = 0; what <= 14; what++) {
             due("count(" + what + ")", x.count(what), want[what]);
         }
-        for (int what : new int[] {Integer.MIN_VALUE, -1, 15, Integer.MAX_VALUE}) {
+        for (int what : new int[] {MIN, -1, 15, MAX}) {
             due("count(" + what + ")", x.count(what), INVALID);
         }
         SlatCrates alike = read("As9r8g0As8r0g0Bs9r0g0Bs9r0g0Cs60r59g0[ABs3r0g0Bs2r0g0]");
@@ -581,12 +508,12 @@ public final class PromisesTest {
     }
 
     private static void promise20Full() {
-        Due.due("full without rooms", read("As9r0g0Bs9r0g0").full(), 0.0);
-        Due.due("full of empty rooms", read("As9r8g0Bs9r0g0").full(), 0.0);
-        Due.due("full", read("As60r50g0[Bs20r7g0[Cs5r4g0]]Ds9r8g0").full(), 25.0 / 69);
-        Due.due("full of thirds", read("As9r2g0[Bs1r0g0]Cs60r1g0").full(), 1.0 / 3);
-        Due.due("wholly full, the least room", read("As2r1g0[Bs1r0g0]").full(), 1.0);
-        Due.due("wholly full", read("As9r8g0[Bs8r0g0]").full(), 1.0);
+        due("full without rooms", read("As9r0g0Bs9r0g0").full(), 0.0);
+        due("full of empty rooms", read("As9r8g0Bs9r0g0").full(), 0.0);
+        due("full", read("As60r50g0[Bs20r7g0[Cs5r4g0]]Ds9r8g0").full(), 25.0 / 69);
+        due("full of thirds", read("As9r2g0[Bs1r0g0]Cs60r1g0").full(), 1.0 / 3);
+        due("wholly full, the least room", read("As2r1g0[Bs1r0g0]").full(), 1.0);
+        due("wholly full", read("As9r8g0[Bs8r0g0]").full(), 1.0);
     }
 
     private static void promise21IfTurned() {
@@ -603,10 +530,10 @@ public final class PromisesTest {
         due("ifTurned(0, 1)", y.ifTurned(0, 1), 3);
         due("ifTurned(1, 1)", y.ifTurned(1, 1), 1);
         due("ifTurned(0, 0), of all crates", y.ifTurned(0, 0), 3);
-        for (int what : new int[] {Integer.MIN_VALUE, -1, 2, Integer.MAX_VALUE}) {
+        for (int what : new int[] {MIN, -1, 2, MAX}) {
             due("ifTurned(0, " + what + ")", y.ifTurned(0, what), INVALID);
         }
-        for (int crate : new int[] {Integer.MIN_VALUE, -1, 3, Integer.MAX_VALUE}) {
+        for (int crate : new int[] {MIN, -1, 3, MAX}) {
             due("ifTurned(" + crate + ", 0)", y.ifTurned(crate, 0), INVALID);
         }
         due("states", y.count(14), 1);
@@ -653,21 +580,21 @@ public final class PromisesTest {
         due("load()", x.load(), 3);
         due("undo of load", x.undo(), 0);
         due("the pad stays empty", x.count(13), 0);
-        Due.due("the crates", all(x), "As60r59g1");
+        due("the crates", all(x), "As60r59g1");
         due("breakUp(0)", x.breakUp(0), 10);
         due("undo of breakUp", x.undo(), 0);
-        Due.due("the crates", all(x), "As60r59g1");
+        due("the crates", all(x), "As60r59g1");
         SlatCrates piles = read("As60r59g0[Bs9r0g0Cs8r0g0Ds7r0g0]");
         piles.ground(3);
         piles.ground(2);
         piles.put(3, 0);
         piles.put(2, 0);
-        Due.due("the pile in another order", text(piles, 0), "As60r59g0[Bs9r0g0Ds7r0g0Cs8r0g0]");
+        due("the pile in another order", text(piles, 0), "As60r59g0[Bs9r0g0Ds7r0g0Cs8r0g0]");
         piles.undo();
         piles.undo();
         due("undo", piles.undo(), 1);
         due("undo", piles.undo(), 0);
-        Due.due("the pile as it was", text(piles, 0), "As60r59g0[Bs9r0g0Cs8r0g0Ds7r0g0]");
+        due("the pile as it was", text(piles, 0), "As60r59g0[Bs9r0g0Cs8r0g0Ds7r0g0]");
         SlatCrates many = new SlatCrates();
         for (int turn = 0; turn < 9; turn++) {
             many.make(10 + turn, 5, 3, A);
@@ -695,7 +622,7 @@ public final class PromisesTest {
         x.make(5, 4, 3, A);
         x.ground(0);
         x.restore();
-        Due.due("the latest snapshot", all(x), "As60r59g1");
+        due("the latest snapshot", all(x), "As60r59g1");
         due("refused", x.count(12), 1);
     }
 
@@ -714,7 +641,7 @@ public final class PromisesTest {
         x.breakUp(1);
         x.make(3, 2, 1, A);
         due("restore()", x.restore(), 3);
-        Due.due("the crates", all(x), "As60r59g1[Bs9r0g0Cs8r0g1]");
+        due("the crates", all(x), "As60r59g1[Bs9r0g0Cs8r0g1]");
         due("the pad stays", x.count(13), 1);
         due("states", x.count(14), 4);
         x.turn(0);
