@@ -137,6 +137,7 @@ public final class BoundariesCratesTest extends Asking {
         labelDue(27 * 27 * 27 * 27 - 1, "ZZZZ");
         labelDue(27 * 27 * 27 * 27, "");
         labelDue(27 * 27 * 27 * 27 + 1, "");
+        labelDue(1 + 27 + 27 * 27 + 27 * 27 * 27 + 27 * 27 * 27 * 27, "");
         labelDue(0, "");
         labelDue(-1, "");
         labelDue(MIN, "");
@@ -370,6 +371,19 @@ public final class BoundariesCratesTest extends Asking {
         due("the room that is left", x.crate(0, 8), 39);
         due("breakUp(2), which was 5", x.breakUp(2), 12);
         due("the others", all(x), "As60r59g0[Bs20r19g0]");
+    }
+
+    @Sentence("Breaks a crate up.")
+    static void promise6BreakUpTheFirst() {
+        SlatCrates x = read("Zs1r0g9ABs60r59g1[CDs20r19g2EFs9r8g3[GHs5r4g4]]IJs2r1g5");
+        due("breakUp(0)", x.breakUp(0), 15);
+        due("all that the others have", all(x), "ABs60r59g1[CDs20r19g2EFs9r8g3[GHs5r4g4]]IJs2r1g5");
+        int[] places = {0, 0, 1, 0, 0};
+        int[] holders = {NONE, 0, 0, 2, NONE};
+        for (int crate = 0; crate < 5; crate++) {
+            due("the place of " + crate, x.crate(crate, 9), places[crate]);
+            due("the holder of " + crate, x.crate(crate, 4), holders[crate]);
+        }
     }
 
     @Sentence("`crate`: its number")

@@ -21,6 +21,15 @@ public final class BoundariesSumsTest extends Asking {
         y.ground(11);
         due("one is loose", y.nest(0), 11);
         due("no second one", y.nest(1), NONE);
+        SlatCrates z = read("As9r8g0Bs8r7g0Cs7r6g0");
+        due("all are loose", z.count(10), 3);
+        z.put(2, 1);
+        due("one is loose", z.count(10), 1);
+        due("the outermost one", z.nest(0), 0);
+        due("no second one any more", z.nest(1), NONE);
+        z.put(1, 0);
+        due("none is loose any more", z.nest(0), NONE);
+        due("the longest nest", z.count(10), 0);
     }
 
     @Sentence("`place`: 0 for the outermost one, and so on")
@@ -252,6 +261,8 @@ public final class BoundariesSumsTest extends Asking {
         due("empty ones", row12().full(), 0.0);
         due("full ones", wide12().full(), 1.0);
         due("one of two is full", read("As2r1g0[Bs1r0g0]Cs2r1g0").full(), 0.5);
+        due("the least room is full", read("As2r1g0[Bs1r0g0]").full(), 1.0);
+        due("the least room is empty", read("As2r1g0Bs1r0g0").full(), 0.0);
     }
 
     @Sentence("Returns the sizes of all crates that lie in others, as a double, divided by all rooms together")

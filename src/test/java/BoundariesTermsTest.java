@@ -44,6 +44,32 @@ public final class BoundariesTermsTest extends Asking {
         }
     }
 
+    @Sentence("numbered from 0 in the order in which they came")
+    static void termsCratesTheFirstInnermost() {
+        SlatCrates x = new SlatCrates();
+        for (int crate = 0; crate < 12; crate++) {
+            due("make", x.make(49 + crate, 48 + crate, 15, A), crate);
+        }
+        for (int crate = 0; crate < 11; crate++) {
+            due("put into the one that came next", x.put(crate, crate + 1), 11);
+        }
+        int[] want = {49, 48, 15, 1, 1, 11, 0, 0, 48, 0, 11, 1, 1, NONE, 0};
+        for (int what = 0; what < want.length; what++) {
+            due("crate(0, " + what + ")", x.crate(0, what), want[what]);
+        }
+        due("the pile of 1", x.crate(1, 6), 1);
+        due("the load of 11", x.crate(11, 7), 11);
+        due("the room left in 1", x.crate(1, 8), 0);
+        due("the room left in all", x.count(5), 48);
+        due("the efforts", x.count(11), 66);
+        due("effort(49, 0)", x.effort(49, 0), 11);
+        due("effort(49, 1)", x.effort(49, 1), 11);
+        due("full()", x.full(), 594.0 / 642.0);
+        due("the nest of 1", text(x, 1), "As50r49g15[As49r48g15]");
+        due("breakUp(0)", x.breakUp(0), 21);
+        due("the next one is the first then", x.crate(0, 10), 10);
+    }
+
     @Sentence("(when one is broken, those with greater numbers get numbers that are 1 less)")
     static void termsCratesBreakTheFirst() {
         SlatCrates x = row12();

@@ -1,10 +1,28 @@
 /** Counts and tells the answers that are not the ones that are due. */
 final class Due {
     private static final int MOST_TOLD = 40;
+    private static final long MOST_MILLISECONDS = 180_000;
     private static int asked = 0;
     private static int wrong = 0;
 
+    static {
+        Thread watch = new Thread(Due::endWhatDoesNotEnd);
+        watch.setDaemon(true);
+        watch.start();
+    }
+
     private Due() {
+    }
+
+    /** A call that never ends would keep the tests waiting instead of failing. */
+    private static void endWhatDoesNotEnd() {
+        try {
+            Thread.sleep(MOST_MILLISECONDS);
+        } catch (InterruptedException interrupted) {
+            return;
+        }
+        System.out.println("a call did not end");
+        Runtime.getRuntime().halt(1);
     }
 
     static int asked() {

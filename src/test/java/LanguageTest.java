@@ -1,17 +1,14 @@
 import com.sun.source.tree.AssertTree;
 import com.sun.source.tree.BinaryTree;
-import com.sun.source.tree.CatchTree;
+import com.sun.source.tree.BlockTree;
 import com.sun.source.tree.ClassTree;
 import com.sun.source.tree.CompilationUnitTree;
 import com.sun.source.tree.IdentifierTree;
 import com.sun.source.tree.ImportTree;
 import com.sun.source.tree.LambdaExpressionTree;
-import com.sun.source.tree.LiteralTree;
 import com.sun.source.tree.MemberReferenceTree;
 import com.sun.source.tree.MemberSelectTree;
 import com.sun.source.tree.MethodTree;
-import com.sun.source.tree.NewArrayTree;
-import com.sun.source.tree.NewClassTree;
 import com.sun.source.tree.SynchronizedTree;
 import com.sun.source.tree.ThrowTree;
 import com.sun.source.tree.Tree;
@@ -25,6 +22,7 @@ import java.io.File;
 import java.io.IOException;
 import java.util.List;
 import java.util.Set;
+import java.util.regex.Pattern;
 import javax.lang.model.element.Modifier;
 import javax.tools.JavaCompiler;
 import javax.tools.StandardJavaFileManager;
@@ -39,15 +37,22 @@ public final class LanguageTest extends TreeScanner<Void, Void> {
     private static final Set<String> FACE = Set.of("make", "put", "ground", "turn", "breakUp", "append", "clear",
         "fault", "load", "sign", "crate", "letter", "seen", "whyNot", "effort", "alike", "nest", "count", "full",
         "ifTurned", "bestTurn", "undo", "save", "restore");
-    private static final Set<String> LIBRARY = Set.of("Math.max", "Math.min", "System.arraycopy");
-    private static final Set<String> LIBRARY_CLASSES = Set.of("Math", "System", "Integer", "Long", "Arrays", "String",
-        "StringBuilder", "List", "ArrayList", "Thread", "Object", "Class", "Runtime", "Double");
+    private static final Set<String> LIBRARY = Set.of("System.arraycopy", "Arrays.copyOf", "Arrays.copyOfRange",
+        "Arrays.fill", "List.of");
+    private static final Pattern NUMBERS = Pattern.compile("(Math|Integer|Long)\\.(?!random$)\\w+(?<!Exact)");
+    private static final Set<String> CLOSED = Set.of("Math", "System", "Integer", "Long", "Arrays", "List", "Thread",
+        "Object", "Class", "Runtime", "Double", "Float", "Character", "Objects", "Collections", "String");
+    private static final Set<String> IMPORTS = Set.of("java.util.ArrayList", "java.util.List", "java.util.Arrays",
+        "java.util.Iterator", "java.util.NoSuchElementException");
+    private static final Set<String> EXCEPTIONS = Set.of("IllegalStateException", "IllegalArgumentException",
+        "IndexOutOfBoundsException", "ArithmeticException", "UnsupportedOperationException",
+        "NoSuchElementException", "RuntimeException");
 
     private final SourcePositions positions;
     private final CompilationUnitTree unit;
     private int classes = 0;
     private boolean inConstructor = false;
-    private boolean inMethod = false;
+    private boolean inImport = false;
 
     private LanguageTest(SourcePositions positions, CompilationUnitTree unit) {
         this.positions = positions;
@@ -94,13 +99,14 @@ public final class LanguageTest extends TreeScanner<Void, Void> {
                     refuse(field, "static state");
                 }
             }
-            if (member.getKind() == Tree.Kind.BLOCK) {
-                refuse(member, "an initialiser block");
+            if (member instanceof BlockTree && ((BlockTree) member).isStatic()) {
+                refuse(member, "a static initialiser block");
             }
         }
         Due.due("too many fields in " + tree.getSimpleName(), Math.max(fields, MOST_FIELDS), MOST_FIELDS);
-        if (classes > 1 && !tree.getModifiers().getFlags().contains(Modifier.STATIC)) {
-            refuse(tree, "a class inside that is not static");
+        Set<Modifier> flags = tree.getModifiers().getFlags();
+        if (classes > 1 && (flags.contains(Modifier.PUBLIC) || flags.contains(Modifier.PROTECTED))) {
+            refuse(tree, "a class inside that shows itself");
         }
         return super.visitClass(tree, none);
     }
@@ -113,81 +119,58 @@ public final class LanguageTest extends TreeScanner<Void, Void> {
         Due.due("too many lines in " + name, Math.max(lines, MOST_LINES), MOST_LINES);
         Due.due("too many parameters of " + name,
             Math.max(tree.getParameters().size(), MOST_PARAMETERS), MOST_PARAMETERS);
-        boolean isPublic = tree.getModifiers().getFlags().contains(Modifier.PUBLIC);
-        if (!isPublic && FACE.contains(name)) {
-            refuse(tree, "a method inside bears the name of a public one");
+        Set<Modifier> flags = tree.getModifiers().getFlags();
+        if (flags.contains(Modifier.PRIVATE) && FACE.contains(name)) {
+            refuse(tree, "a private method bears the name of a public one");
         }
-        inMethod = true;
         inConstructor = name.equals("<init>");
         super.visitMethod(tree, none);
-        inMethod = false;
         inConstructor = false;
         return null;
     }
 
     @Override
-    public Void visitNewClass(NewClassTree tree, Void none) {
-        refuseMaking(tree);
-        return super.visitNewClass(tree, none);
-    }
-
-    @Override
-    public Void visitNewArray(NewArrayTree tree, Void none) {
-        refuseMaking(tree);
-        return super.visitNewArray(tree, none);
-    }
-
-    /** All calls of a run share one room, so calls use the rows that the constructors made. */
-    private void refuseMaking(Tree tree) {
-        if (inMethod && !inConstructor) {
-            refuse(tree, "a call makes an object");
-        }
-    }
-
-    @Override
     public Void visitMemberSelect(MemberSelectTree tree, Void none) {
         String text = tree.toString();
-        String owner = tree.getExpression().toString();
-        if (LIBRARY_CLASSES.contains(owner) && !LIBRARY.contains(text)) {
+        boolean listed = LIBRARY.contains(text) || NUMBERS.matcher(text).matches();
+        if (CLOSED.contains(tree.getExpression().toString()) && !listed) {
             refuse(tree, "a call outside the library: " + text);
         }
-        if (owner.startsWith("java")) {
+        if (text.startsWith("java.") && !inImport) {
             refuse(tree, "a name outside the library: " + text);
         }
         return super.visitMemberSelect(tree, none);
     }
 
     @Override
+    public Void visitImport(ImportTree tree, Void none) {
+        if (!IMPORTS.contains(tree.getQualifiedIdentifier().toString())) {
+            refuse(tree, "an import outside the library");
+        }
+        inImport = true;
+        super.visitImport(tree, none);
+        inImport = false;
+        return null;
+    }
+
+    @Override
     public Void visitIdentifier(IdentifierTree tree, Void none) {
-        if (tree.getName().toString().endsWith("Exception") || tree.getName().contentEquals("Error")) {
-            refuse(tree, "an exception");
+        String name = tree.getName().toString();
+        boolean thrown = name.endsWith("Exception") || name.endsWith("Error") || name.equals("Throwable");
+        if (thrown && !EXCEPTIONS.contains(name)) {
+            refuse(tree, "an exception that is not listed: " + name);
         }
         return super.visitIdentifier(tree, none);
     }
 
     @Override
-    public Void visitLiteral(LiteralTree tree, Void none) {
-        if (tree.getKind() == Tree.Kind.STRING_LITERAL) {
-            refuse(tree, "a text, for which this program has no use");
-        }
-        return super.visitLiteral(tree, none);
-    }
-
-    @Override
     public Void visitBinary(BinaryTree tree, Void none) {
-        if (tree.getKind() == Tree.Kind.DIVIDE || tree.getKind() == Tree.Kind.REMAINDER) {
-            String divisor = tree.getRightOperand().toString();
-            if (!divisor.matches("LABEL_BASE|10|rooms")) {
-                refuse(tree, "a divisor that nobody looked at: " + divisor);
-            }
+        boolean text = tree.getLeftOperand().getKind() == Tree.Kind.STRING_LITERAL
+            || tree.getRightOperand().getKind() == Tree.Kind.STRING_LITERAL;
+        if (text) {
+            refuse(tree, "a text that is joined or compared by a sign");
         }
         return super.visitBinary(tree, none);
-    }
-
-    @Override
-    public Void visitImport(ImportTree tree, Void none) {
-        refuse(tree, "an import");
-        return null;
     }
 
     @Override
@@ -204,20 +187,18 @@ public final class LanguageTest extends TreeScanner<Void, Void> {
 
     @Override
     public Void visitTry(TryTree tree, Void none) {
-        refuse(tree, "a try");
-        return null;
-    }
-
-    @Override
-    public Void visitCatch(CatchTree tree, Void none) {
-        refuse(tree, "a catch");
-        return null;
+        if (tree.getFinallyBlock() != null || !tree.getResources().isEmpty()) {
+            refuse(tree, "a finally, or a try with resources");
+        }
+        return super.visitTry(tree, none);
     }
 
     @Override
     public Void visitThrow(ThrowTree tree, Void none) {
-        refuse(tree, "a throw, which the document asks for nowhere");
-        return null;
+        if (inConstructor || tree.getExpression().getKind() != Tree.Kind.NEW_CLASS) {
+            refuse(tree, "a throw in a constructor, or of what is not new");
+        }
+        return super.visitThrow(tree, none);
     }
 
     @Override
