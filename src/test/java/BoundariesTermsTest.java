@@ -57,6 +57,7 @@ public final class BoundariesTermsTest extends Asking {
         for (int what = 0; what < want.length; what++) {
             due("crate(0, " + what + ")", x.crate(0, what), want[what]);
         }
+        due("the greatest depth", x.count(3), 11);
         due("the pile of 1", x.crate(1, 6), 1);
         due("the load of 11", x.crate(11, 7), 11);
         due("the room left in 1", x.crate(1, 8), 0);
@@ -108,6 +109,11 @@ public final class BoundariesTermsTest extends Asking {
         due("a holder with a lesser number stays", x.crate(2, 4), 0);
         due("a holder with a greater number gets 1 less", x.crate(3, 4), 1);
         due("the size of that holder", x.crate(1, 0), 10);
+        SlatCrates first = read("As1r0g0Bs2r1g0Cs9r8g0");
+        due("put(0, 2)", first.put(0, 2), 11);
+        due("breakUp(1)", first.breakUp(1), 12);
+        due("the holder of the first one gets 1 less", first.crate(0, 4), 1);
+        due("the nest", all(first), "Cs9r8g0[As1r0g0]");
     }
 
     @Sentence("A crate has a size, 1 to 60, a room, 0 to its size less 1")
