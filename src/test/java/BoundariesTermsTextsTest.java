@@ -457,6 +457,62 @@ public final class BoundariesTermsTextsTest extends Asking {
         due("with 4 the first state is kept", four.count(0), 0);
     }
 
+    /** A nest, a refusal, a snapshot that differs from it, and a pad that can be loaded. */
+    private static SlatCrates busy() {
+        SlatCrates x = read("As60r59g1[Bs20r9g2Cs5r4g8]Ds9r8g3");
+        x.save();
+        x.turn(0);
+        x.put(1, 3);
+        write(x, "Es3r2g1");
+        return x;
+    }
+
+    /** The history, the snapshot and the pad are looked at by using them. */
+    private static void untouchedDue(SlatCrates x) {
+        SlatCrates twin = busy();
+        due("all is as before", looks(x), looks(twin));
+        due("undo()", x.undo(), twin.undo());
+        due("the state before the last one", looks(x), looks(twin));
+        due("load()", x.load(), twin.load());
+        due("the crates of the pad", all(x), all(twin));
+        due("restore()", x.restore(), twin.restore());
+        due("the snapshot", looks(x), looks(twin));
+    }
+
+    @Sentence("Ahead of the calls `crate`, `letter`, `seen`, `whyNot`, `effort`, `alike`, `nest`, `count`, `full` the interface says: ---- looks; nothing is changed.")
+    static void termsChangesLooksChangeNothing() {
+        SlatCrates x = busy();
+        for (int crate = 0; crate < 4; crate++) {
+            for (int what = 0; what <= 14; what++) {
+                x.crate(crate, what);
+            }
+            for (int place = 0; place < 4; place++) {
+                x.letter(crate, place);
+                x.seen(crate, place);
+                x.whyNot(crate, place);
+            }
+            x.nest(crate);
+            x.effort(20, crate);
+        }
+        for (int what = 0; what <= 14; what++) {
+            x.count(what);
+        }
+        x.alike(ANY, HIDDEN, BARE, ANY);
+        x.full();
+        untouchedDue(x);
+    }
+
+    @Sentence("Ahead of the calls `ifTurned`, `bestTurn` the interface says: ---- what would be; nothing is changed.")
+    static void termsChangesWhatWouldBeChangesNothing() {
+        SlatCrates x = busy();
+        for (int crate = 0; crate < 4; crate++) {
+            x.ifTurned(crate, 0);
+            x.ifTurned(crate, 1);
+        }
+        due("bestTurn()", x.bestTurn(), 0);
+        untouchedDue(x);
+    }
+
     @Sentence("If several errors apply to a call, INVALID_ARGUMENT is returned rather than NOT_POSSIBLE, NOT_POSSIBLE rather than LIMIT_REACHED, and LIMIT_REACHED rather than NOT_FOUND.")
     static void termsChangesOrderOfErrors() {
         SlatCrates x = row12();

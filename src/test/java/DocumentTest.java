@@ -25,9 +25,6 @@ public final class DocumentTest {
     private static final String[] WITHOUT_BOUNDARY = {"(Sizes and depths are known from outside.)", "The constants: ",
         "Ahead of the calls `make`, `put`, `ground`, `turn`, `breakUp` the interface says: ---- crates.",
         "Ahead of the calls `append`, `clear`, `fault`, `load`, `sign` the interface says: ---- texts.",
-        "Ahead of the calls `crate`, `letter`, `seen`, `whyNot`, `effort`, `alike`, `nest`, `count`, `full` "
-            + "the interface says: ---- looks; nothing is changed.",
-        "Ahead of the calls `ifTurned`, `bestTurn` the interface says: ---- what would be; nothing is changed.",
         "Ahead of the calls `undo`, `save`, `restore` the interface says: ---- history, snapshot."};
 
     private final String place;

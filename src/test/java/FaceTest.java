@@ -1,3 +1,4 @@
+import java.io.IOException;
 import java.lang.reflect.Constructor;
 import java.lang.reflect.Field;
 import java.lang.reflect.Method;
@@ -18,11 +19,12 @@ public final class FaceTest {
     private FaceTest() {
     }
 
-    public static void main(String[] args) throws IllegalAccessException {
+    public static void main(String[] args) throws IllegalAccessException, IOException {
         Due.due("modifiers of the class", SlatCrates.class.getModifiers(), Modifier.PUBLIC | Modifier.FINAL);
         constants();
         constructors();
         methods();
+        document(args.length < 2 ? List.of() : Face.of(args[1]));
         Due.end("FaceTest");
     }
 
@@ -61,5 +63,28 @@ public final class FaceTest {
         Collections.sort(want);
         Collections.sort(shown);
         Due.due("methods", shown.toString(), want.toString());
+    }
+
+    /** The document's own lines, so that a face that changes there is not overlooked here. */
+    private static void document(List<String> face) throws IllegalAccessException {
+        List<String> want = new ArrayList<>();
+        for (String member : face) {
+            want.add(member.replaceAll("int \\w+(?=[,)])", "int").replace(", ", ","));
+        }
+        List<String> shown = new ArrayList<>();
+        for (Field field : SlatCrates.class.getFields()) {
+            shown.add(Modifier.toString(field.getModifiers()) + " int " + field.getName() + " = " + field.getInt(null) + ";");
+        }
+        for (Constructor<?> constructor : SlatCrates.class.getConstructors()) {
+            shown.add(constructor + ";");
+        }
+        for (Method method : SlatCrates.class.getDeclaredMethods()) {
+            if (Modifier.isPublic(method.getModifiers())) {
+                shown.add(method.toString().replace("SlatCrates.", "") + ";");
+            }
+        }
+        Collections.sort(want);
+        Collections.sort(shown);
+        Due.due("the face of the document", face.isEmpty() ? "" : shown.toString(), face.isEmpty() ? "" : want.toString());
     }
 }
